@@ -6,6 +6,7 @@ public final class DotWar {
 
     private static final int CODES = 5;
     private static final int LETTERS = 26;
+    /** With 0, which is none. */
     private static final int CELLS = 64;
     private static final int POINTS = 6;
     private static final int SHORTS = 12;
@@ -919,8 +920,8 @@ public final class DotWar {
             measureFar(code);
             layChain(code);
             int pair = leastSharedPair(code);
-            boolean shorter = twice.size != 2 || pair < twice.at(0) * CELLS + twice.at(1);
-            if (pair < NO_PAIR && shorter) {
+            boolean isLess = twice.size != 2 || pair < twice.at(0) * CELLS + twice.at(1);
+            if (pair < NO_PAIR && isLess) {
                 twice.empty();
                 twice.add(pair / CELLS);
                 twice.add(pair % CELLS);

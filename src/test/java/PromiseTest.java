@@ -353,6 +353,9 @@ public final class PromiseTest {
         due("48 letters", z.read(2, -2), 48);
         due("the last", z.read(2, 47), 25);
         due("behind", z.read(2, 48), NONE);
+        z.letter(2, 3, 44);
+        cells(z, 44);
+        dueFirst("none of twelve shorts", z, 2, 1, "d");
         DotWar w = new DotWar();
         alphabet(w, 0, 1, 1, 1, 1, 1, 1, 1, 1, 1, 1);
         cells(w, 1, 1, 1, 1, 1, 1);
