@@ -578,7 +578,7 @@ public final class DotWar {
         }
     }
 
-    /** Sets what each BOOK would gain in a CODE; whether any would. */
+    /** Sets what each BOOK would gain in a CODE; whether any READER knows it, or its BOOKS need no weighing. */
     private boolean hopeFrom(int code) {
         Arrays.fill(fundPlan.gains, 0);
         boolean hope = false;
