@@ -282,6 +282,14 @@ public final class EdgesOfBoardsTest extends Edges {
         x.know(0, 4, 50);
         boardOf(x, 0, "y=50");
         due("fifty", x.voters(0), 1);
+        for (int code = 0; code < 5; code++) {
+            DotWar y = new DotWar();
+            y.reader(40, 0, true);
+            y.know(0, (code + 2) % 5, 8);
+            y.know(0, code, 9);
+            boardOf(y, 0, "y=9");
+            due("her own is " + code, y.voters(0), 1);
+        }
     }
 
     @Sentence(of = 29, says = "k (how many CODES she knows)")

@@ -196,6 +196,13 @@ public final class EdgesOfBooksTest extends Edges {
         due("in that one", x.room(1, 0, 0), NO);
         shortOf(x, 0, "ab", 9, 9);
         due("by a short", x.room(1, 0, 0), 2);
+        for (int word = 0; word < 30; word++) {
+            DotWar y = made(FILLED);
+            y.count(7, 29, 0);
+            y.count(7, word, 1);
+            due("word " + word + " alone, by a code of nothing", y.room(7, 4, 0), NO);
+            due("word " + word + " alone", y.room(7, 3, 0), 1);
+        }
         refused("changes nothing", ORDINARY, y -> y.room(3, 0, 0), NO);
         refused("by a code of nothing", ORDINARY, y -> y.room(0, 2, 1), NO);
     }

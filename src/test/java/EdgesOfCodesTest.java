@@ -430,6 +430,28 @@ public final class EdgesOfCodesTest extends Edges {
         dueRow("by the first item, not by the last", y, 1, 2, 8);
     }
 
+    @Sentence(of = 7, says = "2 to 4 LETTERS stand as 1 or 2 CELLS")
+    static void writeAShortWhereAllItsLettersStand() {
+        for (int size = 2; size <= 4; size++) {
+            DotWar x = new DotWar();
+            alphabet(x, 0, 1, 2, 4, 8, 16);
+            String letters = "abcd".substring(0, size);
+            shortOf(x, 0, letters, 32);
+            pad(x, letters);
+            dueRow(letters, x, 0, 32);
+            for (int place = 0; place < size; place++) {
+                String other = letters.substring(0, place) + "e" + letters.substring(place + 1);
+                pad(x, other);
+                due(other, x.write(0, -1), size);
+                due(other + " at " + place, x.write(0, place), 16);
+            }
+            pad(x, letters.substring(0, size - 1));
+            due("all but the last", x.write(0, -1), size - 1);
+            pad(x, letters.substring(1));
+            due("all but the first", x.write(0, -1), size - 1);
+        }
+    }
+
     @Sentence(of = 7, says = "PADS: of LETTERS (10 at most), of CELLS (12).")
     static void writeTheMost() {
         DotWar x = new DotWar();
@@ -532,6 +554,9 @@ public final class EdgesOfCodesTest extends Edges {
         due("the first", x.read(2, 0), 22);
         due("the last", x.read(2, 47), 25);
         due("behind", x.read(2, 48), NONE);
+        x.letter(2, 25, 34);
+        cells(x, 34);
+        dueFirst("the last item, behind twelve shorts that are not there", x, 2, 1, "z");
     }
 
     @Sentence(of = 8, says = "the FIRST way is the first by ITEMS")
@@ -645,9 +670,17 @@ public final class EdgesOfCodesTest extends Edges {
 
     @Sentence(of = 9, says = "the shortest, of several the first by CELLS")
     static void waysTheFirstByCells() {
-        DotWar x = new DotWar();
-        alphabet(x, 0, 63, 62, 63, 62, 61);
-        dueTwice("of one cell", x, 0, 62);
+        for (int cell = 63; cell >= 1; cell--) {
+            DotWar x = new DotWar();
+            alphabet(x, 0, 63, 63, cell, cell);
+            dueTwice("of one cell", x, 0, cell);
+            DotWar y = new DotWar();
+            shortOf(y, 0, "ab", 63, 63);
+            shortOf(y, 0, "ab", 63, 63);
+            shortOf(y, 0, "ab", 63, cell);
+            shortOf(y, 0, "ab", 63, cell);
+            dueTwice("of two cells", y, 0, 63, cell);
+        }
         DotWar y = new DotWar();
         shortOf(y, 0, "ab", 40, 41);
         shortOf(y, 0, "ab", 40, 41);
@@ -682,6 +715,12 @@ public final class EdgesOfCodesTest extends Edges {
         }
         alphabet(x, 4, 63, 51);
         dueTwice("thirteen", x, 4, 63, 62, 61, 60, 59, 58, 57, 56, 55, 54, 53, 52, 51);
+        DotWar y = new DotWar();
+        for (int i = 0; i < 12; i++) {
+            shortOf(y, 0, "ab", i + 2, i + 1);
+        }
+        alphabet(y, 0, 13, 1);
+        dueTwice("thirteen, the last short first", y, 0, 13, 12, 11, 10, 9, 8, 7, 6, 5, 4, 3, 2, 1);
         for (int i : new int[] {-3, 13, 14, 256, 65536, MIN, MAX}) {
             due("i " + i, x.ways(4, i), NONE);
         }

@@ -198,6 +198,18 @@ public final class EdgesOfMixesTest extends Edges {
         x.know(1, 0, 0);
         x.know(1, 4, 0);
         due("no own code again", x.anew(0), 0);
+        for (int code = 0; code < 5; code++) {
+            DotWar y = new DotWar();
+            y.part(25, 6);
+            y.letter((code + 1) % 5, 25, 63);
+            y.reader(30, 0, true);
+            y.know(0, code, 1);
+            due("none in her own, " + code, y.anew((code + 1) % 5), 1);
+            y.letter(code, 25, 62);
+            due("another one in her own, " + code, y.anew((code + 1) % 5), 1);
+            y.letter(code, 25, 63);
+            due("the same in her own, " + code, y.anew((code + 1) % 5), 0);
+        }
     }
 
     @Sentence(of = 33, says = "ANEW of a MIX.")
@@ -282,6 +294,22 @@ public final class EdgesOfMixesTest extends Edges {
         x.letter(0, 0, 2);
         due("code 0 has hers for part 0", x.best(), 0);
         due("one", x.anew(0), 1);
+        for (int code = 1; code < 5; code++) {
+            DotWar y = new DotWar();
+            y.part(0, 0);
+            y.part(1, 1);
+            y.letter(0, 0, 1);
+            y.letter(code, 0, 2);
+            y.letter(0, 1, 3);
+            y.letter(code % 4 + 1, 1, 4);
+            for (int i = 0; i < 3; i++) {
+                y.reader(30, 0, true);
+                y.know(i, i == 0 ? 0 : code, 1);
+            }
+            due("four anew", y.anew(0), 4);
+            due("three anew", y.anew(code * 1000000), 3);
+            due("part 0 of another code, part 1 of the first", y.best(), code * 1000000);
+        }
     }
 
     @Sentence(of = 34, says = "(PARTS without LETTERS: 0)")

@@ -4,6 +4,8 @@ import java.util.Random;
 public final class ModelTest {
     private static final int RUNS = 400;
     private static final int CALLS = 512;
+    /** What later calls answer is free, so no step begins that could go beyond. */
+    private static final int LONGEST_STEP = 25;
     private static final String RULE_SIGNS = "ayks<>=0123456789&|";
 
     private final Random random;
@@ -29,7 +31,7 @@ public final class ModelTest {
     public static void main(String[] args) {
         for (int run = 0; run < RUNS; run++) {
             ModelTest test = new ModelTest(run);
-            for (int call = test.begin("seed " + run + ", at first: "); call < CALLS;) {
+            for (int call = test.begin("seed " + run + ", at first: "); call <= CALLS - LONGEST_STEP;) {
                 call += test.step("seed " + run + ", call " + call + ": ");
             }
         }
@@ -68,7 +70,7 @@ public final class ModelTest {
         for (int s = 0; s < shorts; s++) {
             shortForm(at, 1 + random.nextInt(2), few, few + 1);
         }
-        for (int round = 0; round < 10; round++) {
+        for (int round = 0; round < 8; round++) {
             fill(at, random.nextInt(9), few, random.nextInt(13), few + 1);
             for (int i = -2; i <= 13; i++) {
                 check(at + "write(0, " + i + ")", x.write(0, i), m.write(0, i));
