@@ -10,6 +10,7 @@ import java.util.List;
 import java.util.Map;
 import java.util.TreeMap;
 import java.util.regex.Pattern;
+import java.util.stream.IntStream;
 
 /** What the tests of sentences have in common: objects in some state, calls that are refused, what then must still stand. */
 abstract class Edges extends Hands {
@@ -49,18 +50,22 @@ abstract class Edges extends Hands {
             test.invoke(null);
         }
         if (args.length > 1 && Files.exists(Path.of(args[1]))) {
-            compareWithDocument(tests, Files.readString(Path.of(args[1])).replaceAll("\\s+", " "));
+            compareWithDocument(tests, documentAt(args[1]));
         }
         Due.end();
+    }
+
+    /** The document on one line, for its quotes do not know where its lines end. */
+    static String documentAt(String path) throws IOException {
+        return Files.readString(Path.of(path)).replaceAll("\\s+", " ");
     }
 
     /** The quotes are the document's words, and every refusal that a promise names was judged. */
     private static void compareWithDocument(Class<?> tests, String document) {
         for (Method test : sentences(tests)) {
             Sentence sentence = test.getAnnotation(Sentence.class);
-            String terms = document.substring(0, Math.max(0, document.indexOf("## Promise 1:")));
             Due.about("promise " + sentence.of() + ", " + test.getName() + ": ");
-            boolean stands = terms.contains(sentence.says()) || promiseIn(document, sentence.of()).contains(sentence.says());
+            boolean stands = placesOf(document, sentence).length > 0;
             due("the document says \"" + sentence.says() + "\"", stands ? 1 : 0, 1);
         }
         for (Map.Entry<Integer, Integer> judged : REFUSALS.entrySet()) {
@@ -71,6 +76,15 @@ abstract class Edges extends Hands {
                 due(REFUSAL_NAMES[-refusal] + " judged", judged.getValue() >> -refusal & 1, named ? 1 : 0);
             }
         }
+    }
+
+    /** Where the words of a sentence begin, in the Terms and in their promise; those of all promises may stand anywhere. */
+    static int[] placesOf(String document, Sentence sentence) {
+        int terms = document.indexOf("## Promise 1:");
+        int from = document.indexOf("## Promise " + sentence.of() + ":");
+        int to = document.indexOf("## ", from + 3);
+        return IntStream.range(0, document.length()).filter(place -> document.startsWith(sentence.says(), place))
+                .filter(place -> sentence.of() == 0 || place < terms || from <= place && place < to).toArray();
     }
 
     private static String promiseIn(String document, int number) {
@@ -103,10 +117,17 @@ abstract class Edges extends Hands {
     /** The call is refused, refused again, and changes nothing of what can be seen. */
     static void refused(String name, Setup before, Call call, int refusal) {
         REFUSALS.merge(promise, 1 << -refusal, (some, more) -> some | more);
-        for (int view = 0; view < VIEWS; view++) {
-            DotWar x = made(before);
+        unchanged(name, before, x -> {
             due(name, call.on(x), refusal);
             due(name + ", again", call.on(x), refusal);
+        });
+    }
+
+    /** Some calls change nothing of what can be seen. */
+    static void unchanged(String name, Setup before, Setup calls) {
+        for (int view = 0; view < VIEWS; view++) {
+            DotWar x = made(before);
+            calls.on(x);
             due(name + " changes nothing (view " + view + ")", view(x, view).equals(seen(before).get(view)) ? 1 : 0, 1);
         }
     }

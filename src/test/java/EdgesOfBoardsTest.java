@@ -1,4 +1,4 @@
-/** Promises 26 to 30: the sentences that name boundary cases, each by a test of its own. */
+/** Promises 26 to 30: their sentences, those that name boundary cases before all, each by a test of its own. */
 public final class EdgesOfBoardsTest extends Edges {
     private EdgesOfBoardsTest() {
     }
@@ -57,6 +57,24 @@ public final class EdgesOfBoardsTest extends Edges {
     static void signOutsideBeforeFull() {
         refused("32", FILLED, x -> x.sign(32), OUTSIDE);
         refused("127", FILLED, x -> x.sign(127), OUTSIDE);
+    }
+
+    @Sentence(of = 26, says = "A sign more: how many.")
+    static void signPutsBehindTheLast() {
+        String[] rules = {"a=12", "a=21", "a<20|s=1", "s=1|a<02"};
+        int[] due = {1, 2, 7, 6};
+        DotWar x = new DotWar();
+        x.reader(12, 0, false);
+        x.reader(21, 0, true);
+        x.reader(30, 0, true);
+        for (int i = 0; i < rules.length; i++) {
+            for (int j = 0; j < rules[i].length(); j++) {
+                due("how many of " + rules[i], x.sign(rules[i].charAt(j)), j + 1);
+                due("told", x.told(2), j + 1);
+            }
+            x.board(0);
+            due("by " + rules[i], x.voters(0), due[i]);
+        }
     }
 
     // ---- 27 fault
@@ -131,6 +149,46 @@ public final class EdgesOfBoardsTest extends Edges {
         due("they stay", x.told(2), 40);
     }
 
+    @Sentence(of = 27, says = "THE FAULT: the first place (from 0 on; behind the last sign: their number) "
+            + "at which no sign could make a text go on as it stands.")
+    static void faultOfEveryBeginning() {
+        String[] texts = {FORTY, "a>1", "y<22|k=333&s=0", "s=1&s=1&s=1|a>999|a>99|a>9"};
+        for (String text : texts) {
+            for (int size = 0; size <= text.length(); size++) {
+                boolean whole = size > 0 && Character.isDigit(text.charAt(size - 1));
+                due(text.substring(0, size), faultOf(new DotWar(), text.substring(0, size)), whole ? NONE : size);
+            }
+            for (int place = 0; place < text.length(); place++) {
+                for (char wrong : new char[] {'!', '~', 'A', 'b', 'x', '/', ':', ';', '?', '%', '(', '-'}) {
+                    String other = text.substring(0, place) + wrong + text.substring(place + 1);
+                    due(other, faultOf(new DotWar(), other), place);
+                }
+            }
+        }
+    }
+
+    @Sentence(of = 27, says = "THE FAULT of the signs that are there; NONE.")
+    static void faultSignBySign() {
+        DotWar x = new DotWar();
+        String text = "a>1&k=22|s=333";
+        int[] due = {0, 1, 2, NONE, 4, 5, 6, NONE, NONE, 9, 10, 11, NONE, NONE, NONE};
+        for (int i = 0; i < text.length(); i++) {
+            due("before " + i, x.fault(), due[i]);
+            x.sign(text.charAt(i));
+        }
+        due("all", x.fault(), NONE);
+        x.sign('4');
+        due("a fourth digit", x.fault(), 14);
+        x.sign('|');
+        due("it stays", x.fault(), 14);
+        due("the signs stay", x.told(2), 16);
+        x.wipe(2);
+        due("none are there", x.fault(), 0);
+        signs(x, "a>1");
+        x.board(0);
+        due("none are there when a school has them", x.fault(), 0);
+    }
+
     // ---- 28 board
 
     @Sentence(of = 28, says = "(they are empty then): 1 (0: it had one). UNKNOWN; NO: there is a FAULT.")
@@ -191,6 +249,26 @@ public final class EdgesOfBoardsTest extends Edges {
     static void boardUnknownBeforeNo() {
         refused("a school that is not, and no signs", then(ORDINARY, x -> x.wipe(2)), x -> x.board(6), UNKNOWN);
         refused("a school that is not, and a fault", then(ORDINARY, x -> x.sign('&')), x -> x.board(-1), UNKNOWN);
+    }
+
+    @Sentence(of = 28, says = "RULES of boards are texts of up to 40 signs (codes 33 to 126): one or more CLAUSES with a | between two, "
+            + "a CLAUSE: one or more TESTS with a & between two, a TEST: a (AGE), y (YEARS of her OWN CODE, 0 without one), "
+            + "k (how many CODES she knows), s (1: sighted, 0), then <, > or =, and a number of 1 to 3 digits.")
+    static void boardOfAllThatMayBe() {
+        for (String subject : new String[] {"a", "y", "k", "s"}) {
+            for (String comparison : new String[] {"<", ">", "="}) {
+                for (String number : new String[] {"0", "9", "00", "10", "99", "000", "999"}) {
+                    String test = subject + comparison + number;
+                    for (String rule : new String[] {test, test + "&" + test, test + "|" + test, test + "&a>1|" + test + "|s=0&" + test}) {
+                        due(rule, boardOf(new DotWar(), 3, rule), 1);
+                        due(rule + "&", boardOf(new DotWar(), 3, rule + "&"), NO);
+                        due("|" + rule, boardOf(new DotWar(), 3, "|" + rule), NO);
+                    }
+                }
+                due(subject + comparison, boardOf(new DotWar(), 3, subject + comparison), NO);
+                due("turned about", boardOf(new DotWar(), 3, "1" + comparison + subject), NO);
+            }
+        }
     }
 
     // ---- 29 voters
@@ -382,6 +460,34 @@ public final class EdgesOfBoardsTest extends Edges {
         due("they went", x.choice(0, false), 4);
         due("where they are is no rule", x.choice(1, false), NONE);
         due("but readers", x.choice(1, true), 0);
+    }
+
+    @Sentence(of = 30, says = "Each is for her OWN CODE; CHOICE of some READERS: the CODE for which most are")
+    static void choiceByOwnCodes() {
+        DotWar x = new DotWar();
+        for (int r = 0; r < 5; r++) {
+            x.reader(30 + r, 2, true);
+            for (int code = 0; code < 5; code++) {
+                x.know(r, code, 10);
+            }
+        }
+        due("all know all: the first is each one's own", x.choice(2, true), 0);
+        for (int r = 0; r < 5; r++) {
+            x.know(r, r, 11);
+        }
+        due("one for each", x.choice(2, true), 0);
+        x.know(0, 3, 50);
+        due("two for code 3, whatever else they know", x.choice(2, true), 3);
+        x.know(1, 3, 50);
+        due("years do not count, but readers", x.choice(2, true), 3);
+        boardOf(x, 2, "a<31|a=34");
+        due("of those two the first", x.choice(2, false), 3);
+        boardOf(x, 2, "y=11");
+        due("of 2, 3 and 4 one each", x.choice(2, false), 2);
+        for (int code = 0; code < 5; code++) {
+            x.know(2, code, 0);
+        }
+        due("one of them is for none", x.choice(2, false), 3);
     }
 
     @Sentence(of = 30, says = "READERS, 20 at most")

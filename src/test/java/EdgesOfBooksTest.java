@@ -1,4 +1,4 @@
-/** Promises 10 to 14: the sentences that name boundary cases, each by a test of its own. */
+/** Promises 10 to 14: their sentences, those that name boundary cases before all, each by a test of its own. */
 public final class EdgesOfBooksTest extends Edges {
     private EdgesOfBooksTest() {
     }

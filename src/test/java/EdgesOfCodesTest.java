@@ -1,4 +1,4 @@
-/** Promises 1 to 9: the sentences that name boundary cases, each by a test of its own. */
+/** Promises 1 to 9: their sentences, those that name boundary cases before all, each by a test of its own. */
 public final class EdgesOfCodesTest extends Edges {
     private EdgesOfCodesTest() {
     }
@@ -152,6 +152,31 @@ public final class EdgesOfCodesTest extends Edges {
         refused("all three", ORDINARY, x -> x.letter(-1, -1, -1), UNKNOWN);
     }
 
+    @Sentence(of = 2, says = "CODES 0 to 4 give LETTERS CELLS (0: none, at first; two may have one), and have SHORTS, 12 at most each")
+    static void letterIsOfOneCode() {
+        DotWar x = new DotWar();
+        for (int i = 0; i < 130; i++) {
+            due("none yet", x.letter(i % 5, i / 5, i % 63 + 1), 0);
+        }
+        for (int i = 0; i < 130; i++) {
+            due("letter " + i / 5 + " of code " + i % 5, x.letter(i % 5, i / 5, 0), i % 63 + 1);
+        }
+        for (int code = 0; code < 5; code++) {
+            DotWar y = new DotWar();
+            y.letter(code, 2, 9);
+            shortOf(y, code, "ab", 1);
+            pad(y, "abc");
+            cells(y, 1, 9);
+            for (int other = 0; other < 5; other++) {
+                boolean same = other == code;
+                due("written in " + other, y.write(other, -1), same ? 2 : NO);
+                due("read in " + other, y.read(other, -1), same ? 1 : 0);
+                due("shorts of " + other, y.told(10 + other), same ? 1 : 0);
+                due("letters of " + other, y.told(20 + other), same ? 1 : 0);
+            }
+        }
+    }
+
     // ---- 3 say
 
     @Sentence(of = 3, says = "LETTERS are 0 to 25")
@@ -179,6 +204,23 @@ public final class EdgesOfCodesTest extends Edges {
         refused("letter -1", FILLED, x -> x.say(-1), UNKNOWN);
     }
 
+    @Sentence(of = 3, says = "A LETTER more on the PAD: how many.")
+    static void sayPutsBehindTheLast() {
+        DotWar x = new DotWar();
+        for (int l = 0; l < 26; l++) {
+            x.letter(0, l, l + 1);
+        }
+        int[] said = {25, 0, 0, 13, 24, 1, 25, 7, 7, 0};
+        for (int i = 0; i < said.length; i++) {
+            due("how many", x.say(said[i]), i + 1);
+            due("told", x.told(0), i + 1);
+            due("no cell is put", x.told(1), 0);
+            for (int j = 0; j <= i; j++) {
+                due("letter " + j + " of " + (i + 1), x.write(0, j), said[j] + 1);
+            }
+        }
+    }
+
     // ---- 4 dot
 
     @Sentence(of = 4, says = "CELLS are 1 to 63 (six points, as bits)")
@@ -204,6 +246,23 @@ public final class EdgesOfCodesTest extends Edges {
     static void dotOutsideBeforeFull() {
         refused("cell 0", FILLED, x -> x.dot(0), OUTSIDE);
         refused("cell 64", FILLED, x -> x.dot(64), OUTSIDE);
+    }
+
+    @Sentence(of = 4, says = "A CELL more on the PAD: how many.")
+    static void dotPutsBehindTheLast() {
+        DotWar x = new DotWar();
+        for (int l = 0; l < 26; l++) {
+            x.letter(0, l, 63 - l);
+        }
+        int[] pressed = {63, 38, 38, 50, 39, 62, 63, 45, 45, 63, 40, 41};
+        for (int i = 0; i < pressed.length; i++) {
+            due("how many", x.dot(pressed[i]), i + 1);
+            due("told", x.told(1), i + 1);
+            due("no letter is put", x.told(0), 0);
+            for (int j = 0; j <= i; j++) {
+                due("cell " + j + " of " + (i + 1), x.read(0, j), 63 - pressed[j]);
+            }
+        }
     }
 
     // ---- 5 wipe
@@ -469,6 +528,70 @@ public final class EdgesOfCodesTest extends Edges {
         due("its second cell", x.write(4, 9), 62);
     }
 
+    @Sentence(of = 7, says = "ITEMS of a CODE: its SHORTS by numbers, then LETTERS that have a CELL.")
+    static void writeByNumbersOfShorts() {
+        for (int first = 0; first < 12; first++) {
+            DotWar x = new DotWar();
+            alphabet(x, 0, 32, 16);
+            for (int s = 0; s < 12; s++) {
+                shortOf(x, 0, s < first ? "yz" : "ab", 1 + s, s % 2 == 0 ? 63 : 62);
+            }
+            pad(x, "ab");
+            dueRow("letters have fewer points than shorts from " + first + " on", x, 0, 32, 16);
+            DotWar y = new DotWar();
+            alphabet(y, 0, 32, 16);
+            for (int s = 0; s < 12; s++) {
+                shortOf(y, 0, s < first ? "yz" : "ab", 1 << s % 6, 1 << (s + s / 6 + 1) % 6);
+            }
+            pad(y, "ab");
+            dueRow("as many points: short " + first, y, 0, 1 << first % 6, 1 << (first + first / 6 + 1) % 6);
+        }
+    }
+
+    @Sentence(of = 7, says = "LETTERS of the PAD are WRITTEN as a row of ITEMS: with the fewest CELLS, of several the fewest points, "
+            + "then the first by ITEMS.")
+    static void writeAsARowOfItems() {
+        DotWar x = new DotWar();
+        alphabet(x, 0, 1, 2);
+        shortOf(x, 0, "abc", 4);
+        shortOf(x, 0, "bca", 8, 16);
+        shortOf(x, 0, "ca", 32);
+        pad(x, "abcabcabca");
+        dueRow("abc abc abc a", x, 0, 4, 4, 4, 1);
+        pad(x, "bcabca");
+        dueRow("bca bca, not b ca b ca", x, 0, 8, 16, 8, 16);
+        pad(x, "bcaab");
+        dueRow("bca a b", x, 0, 8, 16, 1, 2);
+        pad(x, "caabcca");
+        dueRow("ca abc ca", x, 0, 32, 4, 32);
+        pad(x, "bcabc");
+        due("bca, then bc is no row", x.write(0, -1), NO);
+        x.letter(0, 1, 3);
+        pad(x, "bca");
+        dueRow("bca has fewer points than b ca", x, 0, 8, 16);
+        x.letter(0, 2, 63);
+        pad(x, "bcabc");
+        dueRow("b c abc", x, 0, 3, 63, 4);
+    }
+
+    @Sentence(of = 7, says = "CELLS as the PAD's LETTERS are WRITTEN: how many (i = -1), points (i = -2), the i-th; NONE.")
+    static void writeAsThePadNowIs() {
+        DotWar x = new DotWar();
+        alphabet(x, 2, 7, 56);
+        pad(x, "ab");
+        dueRow("two letters", x, 2, 7, 56);
+        x.say(0);
+        dueRow("one more", x, 2, 7, 56, 7);
+        x.letter(2, 0, 1);
+        dueRow("by the cell it now has", x, 2, 1, 56, 1);
+        x.wipe(0);
+        dueRow("none", x, 2);
+        shortOf(x, 2, "aba", 63);
+        pad(x, "aba");
+        dueRow("by the short that now is", x, 2, 63);
+        due("not by another code", x.write(1, -1), NO);
+    }
+
     // ---- 8 read
 
     @Sentence(of = 8, says = "(No CELLS: one way.)")
@@ -598,6 +721,22 @@ public final class EdgesOfCodesTest extends Edges {
         taken("code", 0, 4, NEW, (x, code) -> x.read(code, -1), 1);
         refusedBeyond("code", 0, 4, ORDINARY, (x, code) -> x.read(code, -1), UNKNOWN);
         refused("a code that is not, an i that is not", ORDINARY, x -> x.read(-1, 99), UNKNOWN);
+    }
+
+    @Sentence(of = 8, says = "CELLS of the PAD are READ as a row of ITEMS, in so many ways (1000000 at most are counted); "
+            + "the FIRST way is the first by ITEMS.")
+    static void readAsARowOfItems() {
+        DotWar x = new DotWar();
+        x.letter(0, 0, 7);
+        shortOf(x, 0, "bc", 7, 7);
+        int ways = 1;
+        int before = 0;
+        for (int size = 0; size <= 12; size++) {
+            dueFirst(size + " cells by one or two", x, 0, ways, "bcbcbcbcbcbc".substring(0, size / 2 * 2) + "a".repeat(size % 2));
+            x.dot(7);
+            ways += before;
+            before = ways - before;
+        }
     }
 
     // ---- 9 ways
@@ -731,5 +870,54 @@ public final class EdgesOfCodesTest extends Edges {
         taken("code", 0, 4, NEW, (x, code) -> x.ways(code, -1), 0);
         refusedBeyond("code", 0, 4, ORDINARY, (x, code) -> x.ways(code, -1), UNKNOWN);
         refused("a code that is not, an i that is not", ORDINARY, x -> x.ways(5, 99), UNKNOWN);
+    }
+
+    @Sentence(of = 9, says = "TWO WAYS: the row of CELLS that two unlike rows of ITEMS (the same LETTERS or not) stand as: "
+            + "the shortest, of several the first by CELLS.")
+    static void waysIsReadTwiceAndNoRowBeforeIt() {
+        dueFirstReadTwice("a letter by two", x -> alphabet(x, 0, 3, 2, 3));
+        dueFirstReadTwice("two by one short", x -> {
+            alphabet(x, 0, 3, 1);
+            shortOf(x, 0, "ab", 3, 1);
+        });
+        dueFirstReadTwice("a ring of three", x -> {
+            x.letter(0, 0, 2);
+            shortOf(x, 0, "ab", 2, 1);
+            shortOf(x, 0, "ab", 1, 3);
+            shortOf(x, 0, "ab", 3, 2);
+        });
+        dueFirstReadTwice("two chains of three", x -> {
+            alphabet(x, 0, 4, 3);
+            shortOf(x, 0, "ab", 4, 2);
+            shortOf(x, 0, "ab", 2, 4);
+            shortOf(x, 0, "ab", 3, 1);
+            shortOf(x, 0, "ab", 1, 4);
+        });
+        dueFirstReadTwice("a chain of five", x -> {
+            alphabet(x, 0, 1, 5);
+            shortOf(x, 0, "ab", 1, 4);
+            shortOf(x, 0, "ab", 4, 2);
+            shortOf(x, 0, "ab", 2, 3);
+            shortOf(x, 0, "ab", 3, 5);
+        });
+    }
+
+    /** Rows of cells 1 to 5 are gone through from the shortest and first on, until one is read in two ways. */
+    private static void dueFirstReadTwice(String name, Setup code) {
+        for (int size = 1, rows = 5; size <= 5; size++, rows *= 5) {
+            for (int number = 0; number < rows; number++) {
+                int[] row = new int[size];
+                for (int i = size - 1, rest = number; i >= 0; i--, rest /= 5) {
+                    row[i] = rest % 5 + 1;
+                }
+                DotWar x = made(code);
+                cells(x, row);
+                if (x.read(0, -1) > 1) {
+                    dueTwice(name, x, 0, row);
+                    return;
+                }
+            }
+        }
+        due(name + " is read twice", 0, 1);
     }
 }

@@ -1,4 +1,4 @@
-/** Promises 31 to 35: the sentences that name boundary cases, each by a test of its own. */
+/** Promises 31 to 35: their sentences, those that name boundary cases before all, each by a test of its own. */
 public final class EdgesOfMixesTest extends Edges {
     private static final int[] TENS = {1000000, 100000, 10000, 1000, 100, 10, 1};
 
@@ -47,6 +47,20 @@ public final class EdgesOfMixesTest extends Edges {
     static void partUnknownBeforeOutside() {
         refused("letter and part", ORDINARY, x -> x.part(26, 7), UNKNOWN);
         refused("letter and part on the other side", ORDINARY, x -> x.part(-1, -2), UNKNOWN);
+    }
+
+    @Sentence(of = 31, says = "PARTS: each LETTER is of a PART 0 to 6, or of none (at first).")
+    static void partEachIsItsOwn() {
+        DotWar x = new DotWar();
+        for (int l = 0; l < 26; l++) {
+            due("none at first", x.part(l, l % 8 - 1), NONE);
+        }
+        for (int l = 0; l < 26; l++) {
+            due("letter " + l, x.part(l, 6 - l % 7), l % 8 == 0 ? NONE : l % 8 - 1);
+        }
+        for (int l = 25; l >= 0; l--) {
+            due("letter " + l + " again", x.part(l, -1), 6 - l % 7);
+        }
     }
 
     // ---- 32 mix
@@ -139,6 +153,52 @@ public final class EdgesOfMixesTest extends Edges {
         due("the last as the first", z.mix(4444444), 0);
     }
 
+    @Sentence(of = 32, says = "A MIX: each PART that has LETTERS is of one CODE: its LETTERS have the CELLS of that.")
+    static void mixOfEveryThree() {
+        for (int digits = 0; digits < 125; digits++) {
+            int[] codes = {digits / 25, digits / 5 % 5, digits % 5};
+            DotWar x = made(EdgesOfMixesTest::threeParts);
+            boolean may = true;
+            for (int l = 0; l < 6; l++) {
+                for (int other = 0; other < l; other++) {
+                    may &= THREE[codes[l / 2]][l] != THREE[codes[other / 2]][other];
+                }
+                may &= THREE[codes[l / 2]][l] != 0;
+            }
+            int mix = 100000 * codes[0] + 1000 * codes[1] + codes[2];
+            due("mix " + mix, x.mix(mix), may ? 1 : 0);
+            due("whatever parts without letters are of", x.mix(mix + 4030210), may ? 1 : 0);
+        }
+    }
+
+    /** Cells of letters 0 to 5 in each code; two letters each are of parts 1, 3 and 6. */
+    private static final int[][] THREE = {{1, 2, 3, 4, 5, 6}, {2, 1, 4, 3, 6, 7}, {8, 9, 5, 8, 1, 0}, {6, 5, 9, 10, 11, 12}, {13, 13, 14, 15, 3, 16}};
+
+    private static void threeParts(DotWar x) {
+        int[] parts = {1, 1, 3, 3, 6, 6};
+        for (int l = 0; l < 6; l++) {
+            x.part(l, parts[l]);
+            for (int code = 0; code < 5; code++) {
+                x.letter(code, l, THREE[code][l]);
+            }
+        }
+    }
+
+    @Sentence(of = 32, says = "Whether a MIX may be, by digits (CODES of PARTS 0 to 6, the first one the highest): 1, 0.")
+    static void mixIsOnlyAsked() {
+        DotWar x = made(EdgesOfMixesTest::threeParts);
+        due("it may be", x.mix(0), 1);
+        due("it may not: part 1 of code 4", x.mix(400000), 0);
+        due("it may not: part 6 of code 2", x.mix(2), 0);
+        due("it may: part 3 of code 4", x.mix(4000), 1);
+        due("it may still be", x.mix(0), 1);
+        for (int code = 0; code < 5; code++) {
+            for (int l = 0; l < 6; l++) {
+                due("cells stay", x.letter(code, l, THREE[code][l]), THREE[code][l]);
+            }
+        }
+    }
+
     // ---- 33 anew
 
     @Sentence(of = 33, says = "ANEW of a MIX. OUTSIDE; NO: it may not be.")
@@ -225,6 +285,44 @@ public final class EdgesOfMixesTest extends Edges {
         }
         due("26 for twenty", x.anew(0), 520);
         due("parts of a code without cells", x.anew(4444444), NO);
+    }
+
+    @Sentence(of = 33, says = "ANEW: the sum over READERS who have an OWN CODE of how many LETTERS of PARTS have another CELL in that (or none).")
+    static void anewOfEveryThree() {
+        int[] own = {0, 1, 1, 2, 4, 4, 4};
+        int best = NO;
+        int least = MAX;
+        DotWar asked = made(EdgesOfMixesTest::threeParts);
+        readersFor(asked, own);
+        for (int digits = 0; digits < 125; digits++) {
+            int[] codes = {digits / 25, digits / 5 % 5, digits % 5};
+            DotWar x = made(EdgesOfMixesTest::threeParts);
+            readersFor(x, own);
+            int mix = 100000 * codes[0] + 1000 * codes[1] + codes[2];
+            int sum = 0;
+            for (int code : own) {
+                for (int l = 0; l < 6; l++) {
+                    sum += THREE[code][l] == THREE[codes[l / 2]][l] ? 0 : 1;
+                }
+            }
+            boolean may = x.mix(mix) == 1;
+            due("anew of " + mix, x.anew(mix), may ? sum : NO);
+            if (may && sum < least) {
+                least = sum;
+                best = mix;
+            }
+        }
+        due("the first of the least", asked.best(), best);
+    }
+
+    /** One reader for each own code; more who have none. */
+    private static void readersFor(DotWar x, int[] own) {
+        for (int r = 0; r < own.length; r++) {
+            x.reader(30, r % 6, true);
+            x.know(r, own[r], 2);
+            x.know(r, 3, 1);
+        }
+        x.reader(30, 0, true);
     }
 
     // ---- 34 best

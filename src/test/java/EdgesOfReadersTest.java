@@ -1,4 +1,4 @@
-/** Promises 15 to 21: the sentences that name boundary cases, each by a test of its own. */
+/** Promises 15 to 21: their sentences, those that name boundary cases before all, each by a test of its own. */
 public final class EdgesOfReadersTest extends Edges {
     private EdgesOfReadersTest() {
     }
@@ -63,6 +63,23 @@ public final class EdgesOfReadersTest extends Edges {
         refused("school and full", FILLED, x -> x.reader(30, -1, true), UNKNOWN);
         refused("age and full", FILLED, x -> x.reader(91, 0, true), OUTSIDE);
         refused("all three", FILLED, x -> x.reader(91, 6, true), UNKNOWN);
+    }
+
+    @Sentence(of = 15, says = "an AGE (5 to 90), a SCHOOL (0 to 5), sighted or not, YEARS of each CODE")
+    static void readerIsOfTheseThree() {
+        for (int school = 0; school < 6; school++) {
+            for (int age : new int[] {5, 6, 48, 89, 90}) {
+                DotWar x = new DotWar();
+                x.reader(age, school, true);
+                x.reader(95 - age, 5 - school, false);
+                due("her age", x.about(0, 0), age);
+                due("her school", x.about(0, 1), school);
+                due("she is sighted", x.about(0, 2), 1);
+                due("the other's age", x.about(1, 0), 95 - age);
+                due("the other's school", x.about(1, 1), 5 - school);
+                due("she is not sighted", x.about(1, 2), 0);
+            }
+        }
     }
 
     // ---- 16 know
@@ -224,6 +241,35 @@ public final class EdgesOfReadersTest extends Edges {
         refused("reader and what, both far", ORDINARY, x -> x.about(MIN, MAX), UNKNOWN);
     }
 
+    @Sentence(of = 18, says = "Of a READER: 0 AGE, 1 SCHOOL, 2 sighted (1, 0), 3 OWN CODE (NONE), 4 CODES she knows, as bits, "
+            + "10 to 14 YEARS of CODES.")
+    static void aboutEachOfTwenty() {
+        DotWar x = new DotWar();
+        for (int r = 0; r < 20; r++) {
+            x.reader(5 + 4 * r, (r + 1) % 6, r % 3 == 0);
+            for (int code = 0; code < 5; code++) {
+                x.know(r, code, yearsOf(r, code));
+            }
+        }
+        for (int r = 0; r < 20; r++) {
+            due("age of " + r, x.about(r, 0), 5 + 4 * r);
+            due("school of " + r, x.about(r, 1), (r + 1) % 6);
+            due("sight of " + r, x.about(r, 2), r % 3 == 0 ? 1 : 0);
+            due("own code of " + r, x.about(r, 3), r == 0 ? NONE : r % 5);
+            int known = 0;
+            for (int code = 0; code < 5; code++) {
+                due("years of " + r + " in " + code, x.about(r, 10 + code), yearsOf(r, code));
+                known |= yearsOf(r, code) > 0 ? 1 << code : 0;
+            }
+            due("codes of " + r, x.about(r, 4), known);
+        }
+    }
+
+    /** Reader 0 knows none; each other one has most years of the code that her number leaves by 5. */
+    private static int yearsOf(int reader, int code) {
+        return reader == 0 ? 0 : code == reader % 5 ? 30 + reader : reader * (code + 1) % 7;
+    }
+
     // ---- 19 near
 
     @Sentence(of = 19, says = "CODES 0 to 4 give LETTERS CELLS")
@@ -277,6 +323,39 @@ public final class EdgesOfReadersTest extends Edges {
             DotWar y = new DotWar();
             y.letter(0, 0, 21);
             due("of " + cell, y.near(0, cell), Integer.bitCount(cell ^ 21) == 1 ? 1 : 0);
+        }
+    }
+
+    @Sentence(of = 19, says = "NEAR a CELL in a CODE: other CELLS that LETTERS of it have (each CELL once) and that differ by just one point.")
+    static void nearOfEveryCell() {
+        int[] alphabet = {1, 3, 9, 25, 17, 11, 27, 19, 10, 26, 5, 7, 13, 29, 21, 15, 31, 23, 14, 30, 37, 39, 58, 45, 61, 53};
+        DotWar x = new DotWar();
+        alphabet(x, 4, alphabet);
+        shortOf(x, 4, "th", 63);
+        for (int cell = 1; cell <= 63; cell++) {
+            int near = 0;
+            for (int other : alphabet) {
+                near += Integer.bitCount(cell ^ other) == 1 ? 1 : 0;
+            }
+            due("cell " + cell, x.near(4, cell), near);
+            due("cell " + cell + " of a code without letters", x.near(3, cell), 0);
+        }
+    }
+
+    @Sentence(of = 19, says = "How many are NEAR a CELL.")
+    static void nearHowMany() {
+        for (int cell = 1; cell <= 63; cell++) {
+            DotWar x = new DotWar();
+            x.letter(2, 25, cell);
+            int near = 0;
+            for (int point = 0; point < 6; point++) {
+                int other = cell ^ 1 << point;
+                x.letter(2, point, other);
+                near += other == 0 ? 0 : 1;
+                due("of " + cell + " with " + other, x.near(2, cell), near);
+            }
+            x.letter(2, 6, cell ^ 33);
+            due("of " + cell + " with one that two points make", x.near(2, cell), near);
         }
     }
 
@@ -384,6 +463,26 @@ public final class EdgesOfReadersTest extends Edges {
         due("by years of this code, not of her own", x.pace(0, 0), 60);
     }
 
+    @Sentence(of = 20, says = "PACE: LETTERS of the PAD as WRITTEN: the sum over CELLS of (10, twice their points and 3 times those NEAR), "
+            + "times (100, 300 by (YEARS and 1), and by how much AGE is above 60) by 100.")
+    static void paceByAllOfIt() {
+        // a: 10, 2 and 3; b: 10, 4 and 6; c: 10, 6 and 3; the short of d: 10, 8 and 3, then 10, 2 and 0
+        String[] texts = {"", "a", "b", "c", "abc", "dd", "abcddcbadd"};
+        int[] sums = {0, 15, 20, 19, 54, 33, 174};
+        for (int age : new int[] {5, 30, 60, 61, 75, 90}) {
+            for (int years : new int[] {1, 2, 6, 12, 49, 50}) {
+                DotWar x = readerOf(age, years);
+                alphabet(x, 0, 1, 3, 7);
+                shortOf(x, 0, "dd", 15, 32);
+                for (int i = 0; i < texts.length; i++) {
+                    pad(x, texts[i]);
+                    int by = 100 + 300 / (years + 1) + Math.max(age, 60) - 60;
+                    due(texts[i] + " at " + age + " by " + years, x.pace(0, 0), sums[i] * by / 100);
+                }
+            }
+        }
+    }
+
     // ---- 21 learn
 
     /** Code 1 has so many letters with cells, unlike all of code 0. */
@@ -485,5 +584,27 @@ public final class EdgesOfReadersTest extends Edges {
         due("2 by 150", learnerOf(50, 1).learn(0, 1), 3);
         due("2 by 151", learnerOf(51, 1).learn(0, 1), 3);
         due("6 by 133: 7.98", learnerOf(33, 3).learn(0, 1), 7);
+    }
+
+    @Sentence(of = 21, says = "MONTHS to learn a CODE: UNLIKE are LETTERS that have a CELL in it, and another one (or none) in her OWN CODE "
+            + "(all, if she has none): (twice as many as these, and 3 for each SHORT) times (100 and AGE) by 100")
+    static void learnByAllOfIt() {
+        for (int age = 5; age <= 90; age += 5) {
+            for (int unlike = 0; unlike < 14; unlike++) {
+                DotWar x = learnerOf(age, unlike);
+                for (int l = 0; l < 12; l++) {
+                    x.letter(0, l, l + 1);
+                    x.letter(1, l, l + 1);
+                }
+                for (int shorts = 0; shorts <= 12; shorts += 4) {
+                    due(unlike + " and " + shorts + " at " + age, x.learn(0, 1), (2 * unlike + 3 * shorts) * (100 + age) / 100);
+                    for (int i = 0; i < 4; i++) {
+                        shortOf(x, 1, "ab", 1);
+                        shortOf(x, 0, "ab", 1);
+                    }
+                }
+                due("her own", x.learn(0, 0), 0);
+            }
+        }
     }
 }

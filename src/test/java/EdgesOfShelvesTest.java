@@ -1,4 +1,4 @@
-/** Promises 22 to 25: the sentences that name boundary cases, each by a test of its own. */
+/** Promises 22 to 25: their sentences, those that name boundary cases before all, each by a test of its own. */
 public final class EdgesOfShelvesTest extends Edges {
     private EdgesOfShelvesTest() {
     }
@@ -72,6 +72,18 @@ public final class EdgesOfShelvesTest extends Edges {
         refused("school and n", ORDINARY, x -> x.shelf(6, 0, 0, 101), UNKNOWN);
         refused("book and n", ORDINARY, x -> x.shelf(0, 8, 0, -1), UNKNOWN);
         refused("code and n", ORDINARY, x -> x.shelf(0, 0, -1, 101), UNKNOWN);
+    }
+
+    @Sentence(of = 22, says = "SHELVES: copies of a BOOK in a CODE at a SCHOOL (0 to 100; 0 at first).")
+    static void shelfEachIsItsOwn() {
+        DotWar x = new DotWar();
+        for (int i = 0; i < 240; i++) {
+            due("none at first", x.shelf(i % 6, i / 6 % 8, i / 48, i % 101), 0);
+        }
+        for (int i = 0; i < 240; i++) {
+            due("book " + i / 6 % 8 + " in " + i / 48 + " at " + i % 6, x.shelf(i % 6, i / 6 % 8, i / 48, 1), i % 101);
+        }
+        due("one of each", x.told(6), 240);
     }
 
     // ---- 23 reads
@@ -211,6 +223,37 @@ public final class EdgesOfShelvesTest extends Edges {
         due("she came", x.school(2, 3), 28);
         x.shelf(2, 2, 2, 0);
         due("a copy less", x.school(2, 3), 24);
+    }
+
+    @Sentence(of = 24, says = "Of a SCHOOL: READERS there who CAN READ none (what = 0), WASTE (1), READERS there (2), "
+            + "BOOKS of which copies stand there, and no READER there CAN READ them, as bits (3).")
+    static void schoolAllFour() {
+        for (int school = 0; school < 6; school++) {
+            DotWar x = new DotWar();
+            for (int i = 0; i < 5; i++) {
+                x.reader(30, i == 4 ? (school + 1) % 6 : school, true);
+            }
+            x.know(0, 0, 1);
+            x.know(1, 1, 1);
+            x.know(1, 0, 9);
+            x.know(2, 2, 1);
+            x.know(4, 3, 1);
+            x.shelf(school, 0, 0, 5);
+            x.shelf(school, 1, 1, 6);
+            x.shelf(school, 5, 3, 7);
+            x.shelf(school, 6, 4, 8);
+            x.shelf(school, 6, 1, 9);
+            x.shelf(school, 7, 4, 10);
+            due("two can read none: they of code 2 and of none", x.school(school, 0), 2);
+            due("waste in codes 3 and 4", x.school(school, 1), 25);
+            due("four readers", x.school(school, 2), 4);
+            due("books 5 and 7", x.school(school, 3), 160);
+            int next = (school + 1) % 6;
+            due("next door: one can read none", x.school(next, 0), 1);
+            due("next door: no waste", x.school(next, 1), 0);
+            due("next door: one reader", x.school(next, 2), 1);
+            due("next door: no book", x.school(next, 3), 0);
+        }
     }
 
     // ---- 25 fund
@@ -367,5 +410,82 @@ public final class EdgesOfShelvesTest extends Edges {
         dueFund("one knows it not", x, 0, 152, 4, 255, 0);
         x.know(19, 3, 50);
         dueFund("but another", x, 0, 152, 4, 255, 0);
+    }
+
+    @Sentence(of = 25, says = "THE FUND has coin (0 to 1000), and prints in one CODE: some BOOKS")
+    static void fundPrintsInOneCode() {
+        DotWar x = new DotWar();
+        x.letter(0, 0, 1);
+        x.letter(1, 1, 1);
+        wordOf(x, "a");
+        wordOf(x, "b");
+        wordOf(x, "z");
+        for (int book = 0; book < 8; book++) {
+            x.count(book, Math.min(book, 2), 1);
+        }
+        x.reader(30, 0, true);
+        x.reader(30, 0, true);
+        x.know(0, 0, 1);
+        x.know(1, 1, 1);
+        dueFund("book 0 in code 0, not book 1 in code 1 too", x, 1000, 1, 0, 1, 1);
+        x.know(0, 1, 1);
+        dueFund("book 1 in code 1 for both", x, 1000, 2, 1, 2, 1);
+        x.letter(0, 1, 2);
+        dueFund("both books in code 0 for one", x, 1000, 2, 0, 3, 2);
+        dueFund("for one coin book 1 in code 1", x, 1, 2, 1, 2, 1);
+    }
+
+    @Sentence(of = 25, says = "GAIN: how many times a READER who knows the CODE CAN READ a BOOK then, and could not")
+    static void fundGainIsWhatIsReadThen() {
+        for (int coin : new int[] {0, 1, 2, 3, 5, 8, 13, 27, 28, 1000}) {
+            DotWar x = printed();
+            x.letter(2, 0, 1);
+            shortOf(x, 2, "aaaa", 2);
+            for (int r = 0; r < 12; r++) {
+                x.reader(30, r % 6, true);
+                x.know(r, r % 5, 1);
+                x.know(r, r * r % 5, 2);
+            }
+            for (int school = 0; school < 6; school++) {
+                x.shelf(school, school, school % 5, 1);
+                x.shelf(school, 7 - school, 4, 1);
+                x.shelf(school, 2, 2, school % 2);
+            }
+            int gain = x.fund(coin, 0);
+            int code = x.fund(coin, 1);
+            int set = x.fund(coin, 2);
+            int price = x.fund(coin, 3);
+            int before = 0;
+            for (int r = 0; r < 12; r++) {
+                before += Integer.bitCount(x.reads(r));
+            }
+            int pages = 0;
+            for (int book = 0; book < 8; book++) {
+                for (int school = 0; school < 6 && (set >> book & 1) == 1; school++) {
+                    x.shelf(school, book, code, 1);
+                }
+                pages += (set >> book & 1) == 1 ? x.room(book, code, 2) : 0;
+            }
+            int then = 0;
+            for (int r = 0; r < 12; r++) {
+                then += Integer.bitCount(x.reads(r));
+            }
+            due("gain of " + coin, gain, then - before);
+            due("pages of " + coin, price, pages);
+            due("within " + coin, price <= coin ? 1 : 0, 1);
+        }
+    }
+
+    @Sentence(of = 25, says = "THE FUND: GAIN (what = 0), CODE (1; NONE: no GAIN), BOOKS as bits (2; 0), coin that it takes (3; 0).")
+    static void fundPrintsNothing() {
+        DotWar x = printed();
+        for (int r = 0; r < 6; r++) {
+            x.reader(30, r, true);
+            x.know(r, 4, 1);
+        }
+        dueFund("all books", x, 1000, 48, 4, 255, 28);
+        dueFund("again: it was only asked", x, 1000, 48, 4, 255, 28);
+        due("no copies stand", x.told(6), 0);
+        due("nothing can be read", x.reads(5), 0);
     }
 }

@@ -38,6 +38,9 @@ public final class LanguageTest {
             words(text);
             lengths(text);
         }
+        if (args.length > 1) {
+            faceOf(Files.readString(Path.of(args[1])));
+        }
         Due.end();
     }
 
@@ -76,6 +79,22 @@ public final class LanguageTest {
         yes("constants " + fields, fields.equals(new TreeSet<>(Arrays.asList(CONSTANTS))));
         Constructor<?>[] made = DotWar.class.getDeclaredConstructors();
         yes("one constructor", made.length == 1 && made[0].getParameterCount() == 0 && Modifier.isPublic(made[0].getModifiers()));
+    }
+
+    /** The face that the document shows is the one that is asked for here, with the values of its constants. */
+    private static void faceOf(String document) throws ReflectiveOperationException {
+        Set<String> calls = new TreeSet<>();
+        Matcher call = Pattern.compile("public int (\\w+)\\(([^)]*)\\);").matcher(document);
+        while (call.find()) {
+            calls.add(call.group(1) + "(" + call.group(2).replaceAll("(int|boolean) \\w+", "$1").replace(", ", ",") + ")");
+        }
+        yes("calls of the document " + calls, calls.equals(new TreeSet<>(Arrays.asList(FACE))));
+        Matcher constants = Pattern.compile("public static final int ([^;]*);").matcher(document);
+        yes("constants of the document", constants.find());
+        for (String constant : constants.group(1).split(", ")) {
+            String[] named = constant.split(" = ");
+            Due.due(named[0], DotWar.class.getField(named[0]).getInt(null), Integer.parseInt(named[1]));
+        }
     }
 
     private static void members(Class<?> one) {
