@@ -410,6 +410,26 @@ public final class EdgesOfMixesTest extends Edges {
         }
     }
 
+    @Sentence(of = 34, says = "It may be, if all of them have CELLS, no two alike.")
+    static void bestNoTwoAlikeWhateverTheCell() {
+        for (int cell = 1; cell <= 63; cell++) {
+            for (int part = 1; part < 7; part++) {
+                DotWar x = new DotWar();
+                x.part(0, 0);
+                x.part(25, part);
+                x.letter(0, 0, cell);
+                x.letter(0, 25, cell);
+                due("both have " + cell, x.best(), NO);
+                x.letter(4, 25, 64 - cell);
+                due("another code has " + (64 - cell), x.best(), cell == 32 ? NO : 4 * TENS[part]);
+                x.part(25, 0);
+                due("both of one part", x.best(), NO);
+                x.letter(4, 0, cell);
+                due("both of code 4", x.best(), cell == 32 ? NO : 4000000);
+            }
+        }
+    }
+
     @Sentence(of = 34, says = "(PARTS without LETTERS: 0)")
     static void bestOfPartsWithoutLetters() {
         for (int p = 0; p < 7; p++) {
